@@ -37,6 +37,8 @@ public final class LocalMenders {
     /** A place of the queue holds this many times the stripe, plus the cell. */
     private static final int STRIPE_STEP = 100;
 
+    /** 2^15 is 1 again. */
+    private static final int PERIOD = 15;
     /** The powers of 2 in the field, from the power 0 on. */
     private static final int[] POWERS = {1, 2, 4, 8, 3, 6, 12, 11, 5, 10, 7, 14, 15, 13, 9};
     /** What each element is to be multiplied by to give 1; 0 stands for that of 0. */
@@ -579,7 +581,7 @@ public final class LocalMenders {
             }
             for (int cell = 0; cell < dataCount(); cell++) {
                 int first = at(POWERS, cell) << 4 * groups;
-                int second = at(POWERS, 2 * cell % POWERS.length) << 4 * (groups + 1);
+                int second = at(POWERS, 2 * cell % PERIOD) << 4 * (groups + 1);
                 put(columns, cell, at(columns, cell) | first | second);
             }
         }
