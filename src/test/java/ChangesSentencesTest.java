@@ -579,6 +579,22 @@ public final class ChangesSentencesTest extends Sentences {
         queueIs("that one is gone", x, 1, 0);
     }
 
+    @Sentence(at = "Promise 9", says = "if it cannot be mended, goes to the end of the queue")
+    static void p09TheFullQueue() {
+        LocalMenders x = store(3, 5, 8, 0);
+        for (int node = 0; node < 20; node++) {
+            x.loseNode(node);
+        }
+        due("once", x.work(1), 0);
+        due("the second one is first", x.waiting(0), 100);
+        due("the first one is last", x.waiting(159), 0);
+        due("fifty times", x.work(50), 0);
+        due("the 52nd is first", x.waiting(0), 306);
+        due("the 51st is last", x.waiting(159), 206);
+        due("none is mended", x.total(5), 160);
+        due("nor lost", x.total(9), 160);
+    }
+
     @Sentence(at = "Promise 9", says = "This is a change (also if none is mended).")
     static void p09IsAChangeIfNoneIsMended() {
         Story.rich().losing(1, 0, 1, 2, 6).and(x -> x.mend(2, 7)).and(x -> x.mend(2, 3)).and(x -> x.mend(0, 9)).changes("none of four", x -> x.work(1), 0);

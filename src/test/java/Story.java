@@ -116,7 +116,7 @@ final class Story {
         return shorter;
     }
 
-    /** All that can be seen of the state. */
+    /** All that can be seen of the state: the cells, the counts, and what follows from both of them and the layout. */
     String state() {
         LocalMenders x = told();
         StringBuilder all = new StringBuilder("  totals");
@@ -128,6 +128,7 @@ final class Story {
             for (int cell = 0; cell < x.total(4); cell++) {
                 all.append(' ').append(x.value(stripe, cell));
             }
+            all.append(", failing ").append(x.failing(stripe)).append(", culprit ").append(x.culprit(stripe));
         }
         all.append("\n  loads");
         for (int node = 0; node < x.total(4); node++) {
@@ -135,8 +136,10 @@ final class Story {
         }
         all.append("\n  queue");
         for (int place = 0; place < x.total(5); place++) {
-            all.append(' ').append(x.waiting(place));
+            int waiting = x.waiting(place);
+            all.append(' ').append(waiting).append(" by ").append(x.way(waiting / 100, waiting % 100));
         }
+        all.append("\n  fatal ").append(x.fatalNodes()).append(", busiest ").append(x.busiest());
         return all.append('\n').toString();
     }
 

@@ -367,6 +367,29 @@ public final class TermsSentencesTest extends Sentences {
         queueIs("empty again", three.and(x -> x.work(3)).told());
     }
 
+    @Sentence(at = "LOST CELLS", says = "a cell that is mended leaves the queue")
+    static void theLongestQueueOfWhichACellCanBeMended() {
+        // the cells 0 to 4 of the stripe 7 are there, and their local parity is the last one that is lost
+        LocalMenders x = store(3, 5, 8, 0);
+        for (int cell = 19; cell >= 0; cell--) {
+            for (int stripe = 0; stripe < 8; stripe++) {
+                if (cell != 15 && (stripe < 7 || cell > 4)) {
+                    x.lose(stripe, cell);
+                }
+            }
+        }
+        for (int stripe = 0; stripe < 8; stripe++) {
+            x.lose(stripe, 15);
+        }
+        due("lost", x.total(5), 155);
+        due("the last one", x.waiting(154), 715);
+        due("mend", x.mend(7, 15), 5);
+        due("lost", x.total(5), 154);
+        due("the last one then", x.waiting(153), 615);
+        due("none behind it", x.waiting(154), NONE);
+        due("the first one", x.waiting(0), 19);
+    }
+
     @Sentence(at = "LOST CELLS", says = "With a new layout the queue is empty.")
     static void aNewLayoutsQueue() {
         queueIs("the same layout", Story.rich().and(x -> x.setLayout(2, 3, 4, 1)).told());

@@ -286,6 +286,17 @@ public final class WouldBeSentencesTest extends Sentences {
         due("a group with a global parity", store(2, 2, 1, 0).fatalNodes(), 0b1010011);
     }
 
+    @Sentence(at = "Promise 30", says = "of all sets with the fewest nodes, the one with the least number as bits")
+    static void p30TheLeastNumberOfEachLayoutAnew() {
+        LocalMenders x = store(2, 3, 2, 1);
+        due("two stripes", x.fatalNodes(), 0b1111);
+        x.setLayout(2, 3, 1, 1);
+        due("one of them", x.fatalNodes(), 0b110101);
+        due("undo", x.undo(), 1);
+        due("two again", x.fatalNodes(), 0b1111);
+        due("asked again", x.fatalNodes(), 0b1111);
+    }
+
     private static int slowNodes(int groups, int size, int stripes, int shift) {
         SlowStore slow = new SlowStore();
         slow.setLayout(groups, size, stripes, shift);
