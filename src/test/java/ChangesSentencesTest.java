@@ -140,11 +140,15 @@ public final class ChangesSentencesTest extends Sentences {
         refusesUnknownStripes("write", (x, stripe) -> x.write(stripe, 0, 6));
     }
 
-    @Sentence(at = "Promise 3", says = {"`cell`: a data cell", "a parity is none"})
+    @Sentence(at = "Promise 3", says = {"`cell`: a data cell", "UNKNOWN (stripe or cell"})
     static void p03Cell() {
         Story.rich().changes("the first", x -> x.write(1, 0, 6), 0);
         Story.rich().changes("the last", x -> x.write(1, 5, 6), 0);
         refusesUnknownCells("write", (x, cell) -> x.write(1, cell, 6));
+    }
+
+    @Sentence(at = "Promise 3", says = "a parity is none")
+    static void p03AParityIsNoDataCell() {
         for (int parity = 6; parity <= 9; parity++) {
             int cell = parity;
             Story.rich().refuses("the parity " + cell, x -> x.write(1, cell, 6), UNKNOWN);
@@ -277,12 +281,30 @@ public final class ChangesSentencesTest extends Sentences {
         Story.rich().changes("one more", x -> x.alter(3, 1, 6), 5);
     }
 
-    @Sentence(at = "Promise 4", says = {"Returns the previous value", "Changes a cell silently.", "This is a change."})
-    static void p04NoParityGoesAlong() {
+    @Sentence(at = "Promise 4", says = "Returns the previous value")
+    static void p04ThePreviousValue() {
         LocalMenders x = new LocalMenders();
         due("the least", x.alter(0, 1, 15), 0);
         due("the greatest", x.alter(0, 1, 8), 15);
-        cellsAre("no parity", x, 0, 0, 8, 0, 0, 0, 0, 0, 0, 0, 0);
+        x.write(0, 1, 3);
+        due("one that was written", x.alter(0, 1, 0), 3);
+        due("a parity that was written along", x.alter(0, 6, 0), 3 ^ 8);
+    }
+
+    @Sentence(at = "Promise 4", says = "Changes a cell silently.")
+    static void p04NoOtherCellGoesAlong() {
+        for (int cell = 0; cell < 10; cell++) {
+            LocalMenders x = new LocalMenders();
+            x.alter(0, cell, 15);
+            int[] cells = new int[10];
+            cells[cell] = 15;
+            cellsAre("changed " + cell, x, 0, cells);
+            cellsAre("the next stripe", x, 1, new int[10]);
+        }
+    }
+
+    @Sentence(at = "Promise 4", says = "This is a change.")
+    static void p04IsAChange() {
         Story.fresh().changes("a new object", y -> y.alter(3, 9, 1), 0);
         Story.rich().changes("with a full history", y -> y.alter(0, 4, 1), 9);
     }
@@ -438,10 +460,14 @@ public final class ChangesSentencesTest extends Sentences {
         due("fifteen data cells", Story.layout(3, 5, 1, 0).losing(0, 19).told().mend(0, 19), 15);
     }
 
-    @Sentence(at = "Promise 7", says = {"Mends a cell.", "This is a change."})
-    static void p07CountsAndIsAChange() {
+    @Sentence(at = "Promise 7", says = "This is a change.")
+    static void p07IsAChange() {
         Story.rich().changes("with a full history", x -> x.mend(2, 3), 8);
         Story.fresh().losing(0, 0).changes("with one state", x -> x.mend(0, 0), 3);
+    }
+
+    @Sentence(at = "Promise 7", says = "Mends a cell.")
+    static void p07EachWayIsCounted() {
         LocalMenders x = Story.rich().told();
         x.mend(2, 3);
         due("mended", x.total(7), 3);
@@ -674,10 +700,24 @@ public final class ChangesSentencesTest extends Sentences {
         due("it stays lost", x.value(2, 9), NONE);
     }
 
-    @Sentence(at = "Promise 10", says = {"(No reads are counted.)", "This is a change.", "Returns how many cells are changed"})
-    static void p10IsOneChangeWithoutReads() {
+    @Sentence(at = "Promise 10", says = "Returns how many cells are changed")
+    static void p10FromOneStripeToAll() {
+        Story story = Story.layout(2, 3, 8, 1);
+        for (int stripe = 7; stripe >= 0; stripe--) {
+            int each = stripe;
+            story = story.and(x -> x.alter(each, each, 1));
+            due("from the stripe " + stripe + " on", story.told().scrub(), 8 - stripe);
+        }
+    }
+
+    @Sentence(at = "Promise 10", says = "This is a change.")
+    static void p10IsOneChange() {
         Story.rich().changes("with a full history", LocalMenders::scrub, 1);
         Story.fresh().and(x -> x.alter(0, 0, 1)).and(x -> x.alter(3, 9, 1)).changes("two stripes", LocalMenders::scrub, 2);
+    }
+
+    @Sentence(at = "Promise 10", says = "(No reads are counted.)")
+    static void p10NothingIsReadNorMended() {
         LocalMenders x = Story.fresh().and(a -> a.alter(0, 0, 1)).and(LocalMenders::scrub).told();
         due("read", x.total(6), 0);
         due("mended", x.total(7), 0);

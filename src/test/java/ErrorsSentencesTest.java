@@ -88,15 +88,42 @@ public final class ErrorsSentencesTest extends Sentences {
 
     // ---- errors
 
-    @Sentence(at = "ERRORS", says = {"`UNKNOWN = -1`: There is no such stripe, cell or node.", "`OUT_OF_RANGE = -2`: Another argument is out of its range.",
-        "`FULL = -3`: There is no more room in the text.", "`NOT_POSSIBLE = -4`: This is not possible in the present state.",
-        "`NONE = -5`: There is no such thing; this is not an error."})
-    static void theConstants() {
+    @Sentence(at = "ERRORS", says = "`UNKNOWN = -1`: There is no such stripe, cell or node.")
+    static void unknownIsForStripesCellsAndNodes() {
         due("UNKNOWN", LocalMenders.UNKNOWN, -1);
+        Story.rich().refuses("no such stripe", x -> x.value(4, 0), -1);
+        Story.rich().refuses("no such cell", x -> x.value(0, 10), -1);
+        Story.rich().refuses("no such node", x -> x.load(10), -1);
+    }
+
+    @Sentence(at = "ERRORS", says = "`OUT_OF_RANGE = -2`: Another argument is out of its range.")
+    static void outOfRangeIsForOtherArguments() {
         due("OUT_OF_RANGE", LocalMenders.OUT_OF_RANGE, -2);
+        Story.rich().refuses("a value", x -> x.alter(1, 0, 16), -2);
+        Story.rich().refuses("steps", x -> x.work(51), -2);
+        Story.rich().refuses("a number of stripes", x -> x.setLayout(2, 3, 9, 1), -2);
+    }
+
+    @Sentence(at = "ERRORS", says = "`FULL = -3`: There is no more room in the text.")
+    static void fullIsForTheText() {
         due("FULL", LocalMenders.FULL, -3);
+        Story.fresh().typed("123456789012345678901234567890123456789012345678901234567890").refuses("the 61st character", x -> x.type('1'), -3);
+        Story full = Story.layout(1, 2, 1, 0).losing(0, 0, 1, 2, 3, 4);
+        full.refuses("a queue has room for all cells", x -> x.lose(0, 0), NONE);
+    }
+
+    @Sentence(at = "ERRORS", says = "`NOT_POSSIBLE = -4`: This is not possible in the present state.")
+    static void notPossibleIsForThePresentState() {
         due("NOT_POSSIBLE", LocalMenders.NOT_POSSIBLE, -4);
+        Story.rich().refuses("with a lost cell", x -> x.failing(2), -4);
+        Story.rich().and(x -> x.mend(2, 7)).and(x -> x.mend(2, 3)).leaves("without one", x -> x.failing(2), 0);
+    }
+
+    @Sentence(at = "ERRORS", says = "`NONE = -5`: There is no such thing; this is not an error.")
+    static void noneIsForWhatThereIsNot() {
         due("NONE", LocalMenders.NONE, -5);
+        Story.fresh().refuses("the busiest node", LocalMenders::busiest, -5);
+        Story.fresh().refuses("the first of the queue", x -> x.waiting(0), -5);
     }
 
     @Sentence(at = "ERRORS", says = "If several errors apply, the one that stands first in the @return line is returned.")
@@ -131,7 +158,7 @@ public final class ErrorsSentencesTest extends Sentences {
         rich.refuses("alter of a lost cell", x -> x.alter(0, 9, -1), OUT_OF_RANGE);
     }
 
-    @Sentence(at = "ERRORS", says = {"NONE is not an error; it is returned only if no error applies.", "`NONE = -5`: There is no such thing; this is not an error."})
+    @Sentence(at = "ERRORS", says = "NONE is not an error; it is returned only if no error applies.")
     static void noneStandsBehindAllErrors() {
         Story rich = Story.rich();
         rich.refuses("write of the same value beside lost cells", x -> x.write(2, 0, 0), NOT_POSSIBLE);

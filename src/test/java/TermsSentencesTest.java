@@ -267,23 +267,31 @@ public final class TermsSentencesTest extends Sentences {
         due("the same again in the group 0", x.failing(0) & 3, 0);
     }
 
-    @Sentence(at = "STRIPES", says = {"the sum, over all data cells i, of 2^i times the cell i, and the first global parity, is 0",
-        "the same with 2^(2 * i) and the second global parity"})
-    static void theGlobalChecksFromTheFirstToTheLastDataCell() {
+    @Sentence(at = "STRIPES", says = "The first global check: the sum, over all data cells i, of 2^i times the cell i, and the first global parity, is 0.")
+    static void theFirstGlobalCheckFromTheFirstToTheLastDataCell() {
+        globalCheck(0, new int[] {1, 2, 4, 8, 3, 6, 12, 11, 5, 10, 7, 14, 15, 13, 9});
+    }
+
+    @Sentence(at = "STRIPES", says = "The second global check: the same with 2^(2 * i) and the second global parity.")
+    static void theSecondGlobalCheckFromTheFirstToTheLastDataCell() {
+        globalCheck(1, new int[] {1, 4, 3, 12, 5, 7, 15, 9, 2, 8, 6, 11, 10, 14, 13});
+    }
+
+    /** Each data cell is changed to 1, and the global parity to its factor. */
+    private static void globalCheck(int number, int[] factors) {
         LocalMenders x = store(3, 5, 1, 0);
-        x.alter(0, 0, 2);
-        x.alter(0, 18, 2);
-        x.alter(0, 19, 2);
-        due("the first data cell", x.failing(0), 1);
-        x.alter(0, 0, 0);
-        x.alter(0, 14, 1);
-        // 2^14 is 9, and 2^28 is 13
-        x.alter(0, 18, 9);
-        due("the first check", x.failing(0), 4 | 16);
-        x.alter(0, 19, 13);
-        due("the second check", x.failing(0), 4);
-        x.alter(0, 17, 6);
-        due("local parities are in no global check", x.failing(0), 4);
+        int bit = 8 << number;
+        for (int cell = 0; cell < 15; cell++) {
+            x.alter(0, cell, 1);
+            due("without the parity of the cell " + cell, x.failing(0) & bit, bit);
+            x.alter(0, 18 + number, factors[cell]);
+            due("with it", x.failing(0) & bit, 0);
+            x.alter(0, 15 + cell / 5, 6);
+            due("local parities are in no global check", x.failing(0) & bit, 0);
+            x.alter(0, cell, 0);
+            due("without the cell " + cell, x.failing(0) & bit, bit);
+            x.alter(0, 18 + number, 0);
+        }
     }
 
     @Sentence(at = "STRIPES", says = "A stripe is consistent if all its checks hold (with all cells there).")

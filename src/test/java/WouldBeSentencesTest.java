@@ -303,7 +303,15 @@ public final class WouldBeSentencesTest extends Sentences {
         return slow.fatalNodes();
     }
 
-    @Sentence(at = "Promise 30", says = {"with which the cells of some stripe that are on these nodes do not survive", "Returns the set as bits (bit k for the node k)"})
+    @Sentence(at = "Promise 30", says = "Returns the set as bits (bit k for the node k)")
+    static void p30TheBitsAreNodesAndNotCells() {
+        LocalMenders x = store(2, 3, 2, 1);
+        due("the nodes 0 to 3", x.fatalNodes(), 0b1111);
+        due("the cells 0 to 3 survive", x.survives(0b1111), 1);
+        due("the cells 9, 0, 1 and 2, which are on these nodes, do not", x.survives(0b1000000111), 0);
+    }
+
+    @Sentence(at = "Promise 30", says = "with which the cells of some stripe that are on these nodes do not survive")
     static void p30OfTheLastStripeAlone() {
         // in the stripe 1 the nodes 0 to 3 have the cells 9, 0, 1, 2: three of a group and a global parity
         due("the stripe 1", store(2, 3, 2, 1).fatalNodes(), 0b1111);
