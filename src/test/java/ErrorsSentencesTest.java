@@ -271,7 +271,22 @@ public final class ErrorsSentencesTest extends Sentences {
         }
     }
 
-    // ---- how long an object is used
+    // ---- what it is
+
+    @Sentence(at = "What it is", says = "the fewest cells whose loss is fatal")
+    static void asManyNodesAsCellsAreFatal() {
+        for (int groups = 1; groups <= 4; groups++) {
+            for (int size = 2; size <= 6 && groups * size <= 15; size++) {
+                LocalMenders x = store(groups, size, 3, 1);
+                int fewest = 1;
+                while (fewest < 4 && x.fatalSets(fewest) == 0) {
+                    fewest++;
+                }
+                due("fatalSets(" + fewest + ") is 0", x.fatalSets(fewest) == 0 ? 1 : 0, 0);
+                due("the nodes of fatalNodes", Integer.bitCount(x.fatalNodes()), fewest);
+            }
+        }
+    }
 
     @Sentence(at = "What it is", says = "An object is used for at most 512 calls after it has been made")
     static void the512thCallIsAnsweredAsTheFirst() {

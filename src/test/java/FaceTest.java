@@ -2,17 +2,12 @@ import java.lang.reflect.Constructor;
 import java.lang.reflect.Field;
 import java.lang.reflect.Method;
 import java.lang.reflect.Modifier;
-import java.util.Arrays;
+import java.util.ArrayList;
+import java.util.List;
 import java.util.TreeSet;
 
-/** The class has the document's face, and shows nothing else. */
+/** The class has the face that stands in ../shared/DOC.md, and shows nothing else. It is run from the project's folder. */
 public final class FaceTest {
-    private static final String[] METHODS = {"int setLayout(int, int, int, int)", "int write(int, int, int)", "int alter(int, int, int)",
-        "int lose(int, int)", "int loseNode(int)", "int mend(int, int)", "int mendNode(int)", "int work(int)", "int scrub()", "int type(char)",
-        "int clearText()", "int perform()", "int undo()", "int keep()", "int restore()", "int value(int, int)", "int node(int, int)",
-        "int load(int)", "int lost(int)", "int waiting(int)", "int failing(int)", "int total(int)", "int way(int, int)", "int reads(int, int)",
-        "int mended(int, int)", "int culprit(int)", "int survives(int)", "int fatalSets(int)", "int fatalNodes()", "int busiest()"};
-    private static final String[] CONSTANTS = {"UNKNOWN -1", "OUT_OF_RANGE -2", "FULL -3", "NOT_POSSIBLE -4", "NONE -5"};
     private static int wrong = 0;
 
     private static void check(boolean good, String what) {
@@ -23,14 +18,63 @@ public final class FaceTest {
     }
 
     public static void main(String[] args) throws Exception {
+        List<String> lines = Page.document().below("## The public face").code("java").get(0);
+        TreeSet<String> due = new TreeSet<>();
+        for (String line : lines.subList(1, lines.size() - 1)) {
+            // the names of the arguments cannot be seen from outside
+            due.add(line.strip().replaceAll("\\b(int|char) \\w+([,)])", "$1$2"));
+        }
+        check(due.size() == 36, "the document shows 5 constants, a constructor and 30 methods: " + due);
         Class<?> face = LocalMenders.class;
-        check(face.getModifiers() == (Modifier.PUBLIC | Modifier.FINAL), "the class is public and final");
-        check(face.getPackageName().isEmpty(), "the class has no package");
-        methods(face);
-        constants(face);
-        Constructor<?>[] constructors = face.getDeclaredConstructors();
-        check(constructors.length == 1 && constructors[0].getModifiers() == Modifier.PUBLIC && constructors[0].getParameterCount() == 0,
-            "there is one public constructor without parameters");
+        check(lines.get(0).equals(Modifier.toString(face.getModifiers()) + " class " + face.getName() + " {"), "the class is " + face);
+        TreeSet<String> found = new TreeSet<>();
+        found.addAll(constants(face));
+        found.addAll(constructors(face));
+        found.addAll(methods(face));
+        check(found.equals(due), "there is " + found + ", due is " + due);
+        insides(face);
+        System.out.println(wrong == 0 ? "FaceTest: the face is as due" : "FaceTest: " + wrong + " faults");
+        if (wrong != 0) {
+            System.exit(1);
+        }
+    }
+
+    private static List<String> constants(Class<?> face) throws IllegalAccessException {
+        List<String> found = new ArrayList<>();
+        for (Field field : face.getDeclaredFields()) {
+            String modifiers = Modifier.toString(field.getModifiers());
+            if (!Modifier.isPrivate(field.getModifiers())) {
+                check(modifiers.equals("public static final"), field + " is a constant");
+                found.add(modifiers + " " + field.getType() + " " + field.getName() + " = " + field.get(null) + ";");
+            } else {
+                check(!Modifier.isStatic(field.getModifiers()) || Modifier.isFinal(field.getModifiers()), field + " is no static state");
+            }
+        }
+        return found;
+    }
+
+    private static List<String> constructors(Class<?> face) {
+        List<String> found = new ArrayList<>();
+        for (Constructor<?> constructor : face.getDeclaredConstructors()) {
+            found.add(constructor + ";");
+        }
+        return found;
+    }
+
+    private static List<String> methods(Class<?> face) {
+        List<String> found = new ArrayList<>();
+        for (Method method : face.getDeclaredMethods()) {
+            if (Modifier.isPrivate(method.getModifiers())) {
+                check(!isPublicName(method.getName()), method + " has a name of its own");
+            } else {
+                found.add(Modifier.toString(method.getModifiers()) + " " + method.getReturnType() + " " + method.getName()
+                    + method.toString().replaceAll(".*(\\(.*)", "$1").replace(",", ", ") + ";");
+            }
+        }
+        return found;
+    }
+
+    private static void insides(Class<?> face) {
         for (Class<?> inside : face.getDeclaredClasses()) {
             int modifiers = inside.getModifiers();
             check(Modifier.isStatic(modifiers) && !Modifier.isPublic(modifiers) && !Modifier.isProtected(modifiers), inside + " is static and hidden");
@@ -38,45 +82,14 @@ public final class FaceTest {
                 check(!isPublicName(method.getName()), inside + " has a method with the public name " + method.getName());
             }
         }
-        System.out.println(wrong == 0 ? "FaceTest: the face is as due" : "FaceTest: " + wrong + " faults");
-        if (wrong != 0) {
-            System.exit(1);
-        }
     }
 
     private static boolean isPublicName(String name) {
-        return Arrays.stream(METHODS).anyMatch(method -> method.startsWith("int " + name + "("));
-    }
-
-    private static void methods(Class<?> face) {
-        TreeSet<String> found = new TreeSet<>();
-        for (Method method : face.getDeclaredMethods()) {
-            if (method.getModifiers() == Modifier.PUBLIC) {
-                StringBuilder types = new StringBuilder();
-                for (Class<?> type : method.getParameterTypes()) {
-                    types.append(types.length() == 0 ? "" : ", ").append(type);
-                }
-                found.add(method.getReturnType() + " " + method.getName() + "(" + types + ")");
-            } else {
-                check(Modifier.isPrivate(method.getModifiers()), method + " is private");
-                check(!isPublicName(method.getName()), method + " has a name of its own");
+        for (Method method : LocalMenders.class.getDeclaredMethods()) {
+            if (Modifier.isPublic(method.getModifiers()) && method.getName().equals(name)) {
+                return true;
             }
         }
-        check(found.equals(new TreeSet<>(Arrays.asList(METHODS))), "the public methods are " + found);
-    }
-
-    private static void constants(Class<?> face) throws Exception {
-        TreeSet<String> found = new TreeSet<>();
-        for (Field field : face.getDeclaredFields()) {
-            if (Modifier.isPublic(field.getModifiers())) {
-                check(field.getType() == int.class && Modifier.isStatic(field.getModifiers()) && Modifier.isFinal(field.getModifiers()),
-                    field + " is a constant");
-                found.add(field.getName() + " " + field.getInt(null));
-            } else {
-                check(Modifier.isPrivate(field.getModifiers()), field + " is private");
-                check(!Modifier.isStatic(field.getModifiers()) || Modifier.isFinal(field.getModifiers()), field + " is no static state");
-            }
-        }
-        check(found.equals(new TreeSet<>(Arrays.asList(CONSTANTS))), "the constants are " + found);
+        return false;
     }
 }

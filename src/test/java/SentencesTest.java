@@ -11,9 +11,9 @@ import java.util.Map;
 import java.util.Set;
 
 /**
- * Whether the tests of single sentences and the document fit: each test quotes words that stand there, and from 'Terms' on
- * each sentence, and each part of one that ends with a semicolon, is quoted by a test or named here as without a boundary
- * case. It reads the document, so it is run from the project's folder.
+ * Whether the tests of single sentences and the document fit: each test quotes words that stand there, and each sentence, and
+ * each part of one that ends with a semicolon, is quoted by a test or named here as without a boundary case. The public face,
+ * which has no sentences, is left to FaceTest. It reads the document, so it is run from the project's folder.
  */
 public final class SentencesTest {
     private static final Path DOCUMENT = Path.of("../shared/DOC.md");
@@ -21,6 +21,7 @@ public final class SentencesTest {
         ChangesSentencesTest.class, LooksSentencesTest.class, WouldBeSentencesTest.class};
     /** What these say is tested with the sentences behind them, which say where it ends. */
     private static final List<String> WITHOUT_BOUNDARY = List.of(
+        "what later calls answer is free.",
         "`int lost(int stripe)`: Returns the lost cells of a stripe.",
         "`int waiting(int place)`: Returns a cell of the queue.",
         "`int failing(int stripe)`: Tells which checks of a stripe do not hold.",
@@ -51,7 +52,7 @@ public final class SentencesTest {
         }
         int sentences = 0;
         for (String name : parts.keySet()) {
-            if (name.matches("[A-Z ]+|Promise \\d+")) {
+            if (name.matches("What it is|[A-Z ]+|Promise \\d+")) {
                 sentences += lookForTests(name, parts.get(name), quoted.get(name));
             }
         }
