@@ -63,11 +63,11 @@ public final class ReadmeTest {
         same("the calls that the example shows", List.copyOf(called), List.copyOf(new TreeSet<>(namesInTheDocument(Page.document()))));
         try (Shell shell = new Shell()) {
             Shell.Outcome outcome = runParts(shell, readme, 0);
-            check(outcome.code() == 0 && outcome.printed().isEmpty(), "the example ends with " + outcome.code() + ":\n" + outcome.printed());
+            check(outcome.code() == 0 && outcome.printed().isEmpty(), "the example ends with " + outcome);
         }
         try (Shell shell = new Shell()) {
             Shell.Outcome outcome = runParts(shell, readme, 1);
-            check(outcome.lines().size() == answered.size(), "only these wrong answers are noticed:\n" + outcome.printed());
+            check(outcome.lines().size() == answered.size(), "not all wrong answers are noticed: " + outcome);
         }
     }
 
@@ -132,7 +132,7 @@ public final class ReadmeTest {
         List<List<String>> commands = part.code("sh");
         Files.createSymbolicLink(shell.folder.resolve("src"), Path.of("src").toAbsolutePath());
         Shell.Outcome outcome = shell.run("set -e\n" + String.join("\n", commands.get(commands.size() - 1)));
-        check(outcome.code() == 0, "the commands end with " + outcome.code() + ":\n" + outcome.printed());
+        check(outcome.code() == 0, "the commands end with " + outcome);
         return outcome;
     }
 
@@ -207,7 +207,7 @@ public final class ReadmeTest {
     private static void singleTest(Page readme) throws Exception {
         try (Shell shell = new Shell()) {
             Shell.Outcome outcome = commands(shell, readme.below("## Tests"));
-            check(outcome.printed().contains("PromisesTest: all answers are as due"), "the single test prints " + outcome.printed());
+            check(outcome.printed().contains("PromisesTest: all answers are as due"), "the single test ends with " + outcome);
         }
     }
 

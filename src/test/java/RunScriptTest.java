@@ -77,11 +77,11 @@ public final class RunScriptTest {
             // a clean checkout may lie where no file can be executed by itself
             Shell.Outcome outcome = shell.run("cd project && bash " + SCRIPT);
             if ((outcome.code() == 0) != one.passes()) {
-                faults.add(one.what() + " ends with " + outcome.code() + ":\n" + outcome.printed());
+                faults.add(one.what() + " ends with " + outcome);
             }
             for (String due : one.printed()) {
                 if (!outcome.printed().contains(due)) {
-                    faults.add(one.what() + " does not print \"" + due + "\":\n" + outcome.printed());
+                    faults.add(one.what() + " does not print \"" + due + "\", but ends with " + outcome);
                 }
             }
         }

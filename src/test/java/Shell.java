@@ -12,18 +12,24 @@ final class Shell implements AutoCloseable {
     Shell() throws IOException {
     }
 
-    /** What a command printed, and the exit code that it ended with. */
-    record Outcome(int code, String printed) {
+    /** The exit code that a command ended with, what it printed, and, apart from that, what it said of faults. */
+    record Outcome(int code, String printed, String said) {
         List<String> lines() {
             return printed.lines().toList();
+        }
+
+        @Override
+        public String toString() {
+            return code + ":\n" + printed + said;
         }
     }
 
     Outcome run(String command) throws IOException, InterruptedException {
-        Process process = new ProcessBuilder("bash", "-c", command).directory(folder.toFile()).redirectErrorStream(true).start();
+        Path said = folder.resolve("said");
+        Process process = new ProcessBuilder("bash", "-c", command).directory(folder.toFile()).redirectError(said.toFile()).start();
         process.getOutputStream().close();
         String printed = new String(process.getInputStream().readAllBytes());
-        return new Outcome(process.waitFor(), printed);
+        return new Outcome(process.waitFor(), printed, Files.readString(said));
     }
 
     void write(String file, String... lines) throws IOException {
